@@ -524,7 +524,7 @@ public final class TitleMimes {
             return finding(FULL);
         }
         for (int k = n - 1; k >= 0; k--) {
-            tape.add(bytes >>> 8 * k & 255);
+            tape.add((bytes >>> 8 * k) & 255);
         }
         return tape.size;
     }

@@ -140,14 +140,17 @@ public final class ImagesTest {
         x.load(0);
         x.sheet(0, 8, -1);
         x.text();
+        for (int k = 0; k < 31; k++) {
+            x.feed(0, 4);
+        }
         x.undo();
-        int[] want = {3, 2, 1, 2, 1, 1, 1};
+        int[] want = {3, 3, 1, 2, 1, 1, 1};
         for (int which = 0; which < 7; which++) {
             D.due("status(" + which + ")", x.status(which), want[which]);
         }
-        D.due("status(-1)", x.status(-1), 11);
+        D.due("status(-1)", x.status(-1), 12);
         x.status(8);
         D.due("status(0), one more", x.status(0), 4);
-        D.due("status(-1), one more", x.status(-1), 12);
+        D.due("status(-1), one more", x.status(-1), 13);
     }
 }

@@ -5,8 +5,10 @@ public final class MinutesTest {
     public static void main(String[] args) {
         byRule();
         tooLong();
+        justWithin();
         evenings();
         hats();
+        fourInAHat();
         findings();
         D.finish();
     }
@@ -79,6 +81,26 @@ public final class MinutesTest {
         D.due("points(0, 0): no sign parts", y.points(0, 0), 0);
     }
 
+    /** For title 7 SIGN, ACTED 1, WHOLE 2 and WHOLE 3 are shown: 3, 15, 37, 60 seconds. */
+    private static void justWithin() {
+        TitleMimes x = new TitleMimes();
+        for (int w = 0; w < 4; w++) {
+            x.word(2, 0, w == 1 ? 0 : 1);
+        }
+        int[][] rows = {
+            {0, 0, 3, 2}, {0, 0}, {1, 2, 2}, {1, 0, 1}, {0, 1, 3}, {3, 0, 1}, {2, 1, 0, 2}, {2, 1, 3, 3}, {0, 3},
+            {2, 1, 3, 2}};
+        for (int t = 0; t < rows.length; t++) {
+            x.title(rows[t][0]);
+            for (int i = 1; i < rows[t].length; i++) {
+                x.more(t, rows[t][i]);
+            }
+        }
+        D.due("minute(7, 0), to its end", x.minute(7, 0), 60);
+        D.due("points(7, 0), to its end", x.points(7, 0), 0);
+        D.due("had(0), to its end", x.had(0), 10);
+    }
+
     private static int drawn(int z) {
         return z * 1103515245 + 12345;
     }
@@ -86,13 +108,14 @@ public final class MinutesTest {
     private static void evenings() {
         TitleMimes x = four();
         x.title(3);
+        x.more(4, 0);
+        x.title(0);
         x.know(1, 0, false);
-        x.know(3, 0, false);
-        // Band 0 knows three titles; what each brings was tested before.
-        int[] titles = {0, 2, 4};
-        int[] worth = new int[3];
-        for (int k = 0; k < 3; k++) {
-            worth[k] = x.points(titles[k], 0);
+        // Titles 0 and 5 are alike; 3 and 4 need a SIGN behind WHOLE 0.
+        int[] worth = {0, 40, 37, 37, 0};
+        int[] titles = {0, 2, 3, 4, 5};
+        for (int k = 0; k < 5; k++) {
+            D.due("points(" + titles[k] + ", 0)", x.points(titles[k], 0), worth[k]);
         }
         D.due("count(5) at first", x.count(5), 1);
         for (int seed : new int[] {1, -7, 123456789}) {
@@ -101,7 +124,7 @@ public final class MinutesTest {
                 int want = 0;
                 for (int k = 0; k < n; k++) {
                     z = drawn(z);
-                    want += worth[(z >>> 8) % 3];
+                    want += worth[(z >>> 8) % 5];
                 }
                 x.seed(seed);
                 int before = x.score(0);
@@ -145,6 +168,37 @@ public final class MinutesTest {
         x.know(4, 0, false);
         D.due("hat(1), none left", x.hat(1), Due.NONE);
         D.due("unfair(), none left", x.unfair(), Due.NONE);
+    }
+
+    /** Band 0 has titles by WHOLE, and 0 not at all; band 1 by POINTED, then COUNTING or SIGN. */
+    private static void fourInAHat() {
+        TitleMimes x = four();
+        x.title(3);
+        x.more(4, 0);
+        x.title(0);
+        x.know(5, 1, false);
+        x.know(1, 0, false);
+        x.know(2, 1, false);
+        int[][] points = {{0, 51}, {40, 0}, {37, 53}, {37, 53}};
+        int[] titles = {0, 2, 3, 4};
+        for (int k = 0; k < 4; k++) {
+            for (int band = 0; band < 2; band++) {
+                int want = titles[k] == 2 && band == 1 ? Due.STATE : points[k][band];
+                D.due("points(" + titles[k] + ", " + band + ")", x.points(titles[k], band), want);
+            }
+        }
+        D.due("hat(1)", x.hat(1), 8);
+        D.due("hat(2)", x.hat(2), 24);
+        D.due("hat(3)", x.hat(3), 25);
+        D.due("hat(4), three", x.hat(4), Due.NONE);
+        D.due("unfair(): 51 more for band 1", x.unfair(), 0);
+        x.know(2, 1, true);
+        x.know(1, 0, true);
+        D.due("hat(4), five", x.hat(4), 30);
+        x.slip(1, 0);
+        x.hat(2);
+        x.unfair();
+        D.due("a slip stays", x.now(4), 63);
     }
 
     private static void findings() {

@@ -78,6 +78,9 @@ public final class ModelTest {
         while (log.size() < CALLS && D.isClean()) {
             step(x, m, log, chance);
         }
+        for (int which = -1; which < 7 && D.isClean(); which++) {
+            call(x, m, log, "status", which);
+        }
         if (!D.isClean()) {
             System.out.println("run " + number + ": " + log);
         }

@@ -67,6 +67,8 @@ public final class TextsTest {
         D.due("wordOf(5, 0)", x.wordOf(5, 0), 4);
         D.due("wordOf(5, 1)", x.wordOf(5, 1), 7);
         D.due("a word there by then", Due.read(x, "word 1;title 6"), 2);
+        D.due("with the least", Due.read(x, "word 1 sound 0 sense 0"), 1);
+        D.due("wordOf(7, 0)", x.wordOf(7, 0), 1);
         D.due("known to both", x.known(0) & x.known(1), 31);
     }
 
@@ -106,6 +108,11 @@ public final class TextsTest {
         fault("word 4294967297", 5);
         fault("word x", 5);
         fault("words 1", 0);
+        fault("worda 1", 0);
+        fault("aword 1", 0);
+        fault("wordz 1", 0);
+        fault("xord 1", 0);
+        fault("worx 1", 0);
         fault("wor 1", 0);
         fault("Word 1", 0);
         fault("word 1 2", 7);

@@ -68,6 +68,17 @@ public final class SoundsTest {
         D.due("rare(0)", x.rare(0), 3);
         D.due("rare(1)", x.rare(1), 0);
         D.due("rare(3)", x.rare(3), Due.BEYOND);
+        TitleMimes y = new TitleMimes();
+        y.word(1, 0, 0);
+        y.word(1, 0, 0);
+        for (int t = 0; t < 24; t++) {
+            y.title(0);
+            if (t > 0) {
+                y.more(t, 1);
+            }
+        }
+        D.due("rare(23): of 24 and 23", y.rare(23), 1);
+        D.due("rare(0): of 24 alone", y.rare(0), 0);
         D.due("rare(-1)", x.rare(-1), Due.BEYOND);
     }
 }

@@ -12,7 +12,7 @@ import java.util.Random;
 /** All promises: runs of calls by chance (the same each time), answered as the model does. */
 public final class ModelTest {
     private static final int RUNS = 250;
-    private static final int CALLS = 500;
+    private static final int CALLS = 460;
     private static final Due D = new Due();
 
     /** A letter for each argument: see argument(). */
